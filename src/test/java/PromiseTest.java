@@ -419,6 +419,10 @@ public final class PromiseTest {
         due("pace(false), dead", x.pace(false), NONE);
         x.put(3, 9);
         due("pace(true), no more dead", x.pace(true), 3);
+        PullCards quick = stations(1);
+        quick.arc(0, 0, 9);
+        due("pace(true), 1 by 9", quick.pace(true), 1);
+        due("pace(false), 1 by 9", quick.pace(false), 9);
     }
 
     private static void promise14Slowest() {
@@ -441,6 +445,11 @@ public final class PromiseTest {
         due("slowest(), 4 by 2 and 2 by 1", x.slowest(), 0);
         x.put(0, 3);
         due("slowest(), 2 by 1", x.slowest(), 2);
+        PullCards quick = stations(1, 2);
+        quick.arc(0, 0, 9);
+        due("slowest(), 1 by 9", quick.slowest(), 0);
+        quick.arc(1, 1, 9);
+        due("slowest(), 2 by 9", quick.slowest(), 1);
     }
 
     private static void promise15Begins() {
@@ -496,6 +505,15 @@ public final class PromiseTest {
         }
         due("begins(7, 60)", ring.begins(7, 60), 9740);
         due("begins(0, 0)", ring.begins(0, 0), 0);
+
+        // With as many arcs as there can be, the last one in turn still counts.
+        PullCards many = stations(1, 1);
+        for (int i = 0; i < 15; i++) {
+            many.arc(0, 0, 9);
+        }
+        many.arc(0, 1, 0);
+        due("begins(1, 0), 16 arcs", many.begins(1, 0), 1);
+        due("begins(1, 60), 16 arcs", many.begins(1, 60), 7);
     }
 
     private static void promise16Note() {
@@ -545,6 +563,14 @@ public final class PromiseTest {
         due("audit(true), noted again", x.audit(true), 0);
         x.arc(3, 0, 1);
         due("audit(false), an arc came", x.audit(false), STATE);
+        PullCards many = stations(1);
+        for (int i = 0; i < 16; i++) {
+            many.arc(0, 0, 5);
+        }
+        many.note();
+        due("audit(false), 16 arcs", many.audit(false), 0);
+        many.put(15, 4);
+        due("audit(true), 16 arcs", many.audit(true), 1);
         PullCards none = new PullCards();
         none.note();
         due("audit(true), none noted down", none.audit(true), 0);
@@ -609,6 +635,16 @@ public final class PromiseTest {
         due("store(1)", x.store(1), 1);
     }
 
+    /**
+     * The first works for f ticks, f or more by 1 by 2 to the f, and never again; the second at each
+     * other tick. So the store fills at ticks 1, 3, .. to the f-th, and after it is emptied at ticks
+     * 2, 4, ..: with room enough all that the first makes is given, 5 at most in ten ticks; with
+     * B 2, f = 5 gives 4; with B 1, f = 3 gives 2.
+     */
+    private static PullCards lasting(int store) {
+        return machines(2, 0, 4, 4, store);
+    }
+
     private static void promise21Given() {
         promise = 21;
         PullCards x = machines(2, 2, 0, 0, 0);
@@ -642,6 +678,12 @@ public final class PromiseTest {
         store.store(0);
         due("given(2, true), no store", store.given(2, true), 7);
         due("given(2, false), no store", store.given(2, false), 16);
+        PullCards last = lasting(3);
+        due("given(10, true), B 3", last.given(10, true), 31);
+        due("given(10, false), B 3", last.given(10, false), 32);
+        last.store(2);
+        due("given(10, true), B 2", last.given(10, true), 61);
+        due("given(10, false), B 2", last.given(10, false), 64);
     }
 
     private static void promise22Just() {
@@ -668,6 +710,13 @@ public final class PromiseTest {
         due("just(10, 10, false)", sure.just(10, 10, false), 1);
         due("just(10, 9, true)", sure.just(10, 9, true), 0);
         due("just(10, 0, true)", sure.just(10, 0, true), 0);
+        PullCards last = lasting(2);
+        due("just(6, 3, false), B 2", last.just(6, 3, false), 8);
+        due("just(6, 2, false), B 2", last.just(6, 2, false), 8);
+        last.store(1);
+        due("just(6, 3, false), B 1", last.just(6, 3, false), 16);
+        due("just(6, 2, true), B 1", last.just(6, 2, true), 3);
+        due("just(6, 2, false), B 1", last.just(6, 2, false), 16);
         PullCards rare = machines(3, 0, 3, 0, 0);
         due("just(10, 10, true)", rare.just(10, 10, true), 1);
         due("just(10, 10, false)", rare.just(10, 10, false), 1L << 40);
@@ -689,6 +738,15 @@ public final class PromiseTest {
         due("total(3), nothing changes", x.total(3), 5);
         due("least(10, 1, 1000)", x.least(10, 1, 1000), 0);
         due("least(10, 1000, 1)", x.least(10, 1000, 1), NONE);
+        due("least(1, 1, 4)", x.least(1, 1, 4), 0);
+        due("least(1, 251, 1000)", x.least(1, 251, 1000), NONE);
+        PullCards last = lasting(0);
+        due("least(10, 61, 64)", last.least(10, 61, 64), 2);
+        due("least(10, 954, 1000)", last.least(10, 954, 1000), 3);
+        due("least(10, 31, 32)", last.least(10, 31, 32), 3);
+        due("least(10, 969, 1000)", last.least(10, 969, 1000), NONE);
+        // As a second program found it; in ten ticks a store for 6 is of no more use than for 5.
+        due("least(10, 141, 64)", machines(1, 0, 1, 1, 0).least(10, 141, 64), 5);
         PullCards sure = new PullCards();
         due("least(10, 10, 1)", sure.least(10, 10, 1), 0);
         due("least(9, 10, 1)", sure.least(9, 10, 1), NONE);
@@ -737,6 +795,10 @@ public final class PromiseTest {
         due("rough()", demands(2, 1, 0, 1).rough(), 2);
         // 1 1 0 1 1: kind 0 is at -1, -2, 2, 1, 0.
         due("rough(), uneven", demands(1, 4).rough(), 2);
+        // 0 1 2 0 1 0 1: kind 1 is after four places at 7 - 12, none is so far ahead.
+        due("rough(), behind", demands(3, 3, 1).rough(), 5);
+        // 1 0 1 1 2 1 1 0 1: kind 0 is after two places at 9 - 4, the others at 4 at most.
+        due("rough(), the least kind", demands(2, 6, 1).rough(), 5);
         due("rough(), six of one", demands(1, 1, 1, 1, 1, 1).rough(), 5);
         PullCards x = demands(1, 4);
         x.demand(0, 0);
