@@ -22,9 +22,9 @@ public final class FormTest {
     };
     private static final String[] CONSTANTS = {"FULL", "NONE", "OUTSIDE", "STATE", "UNKNOWN"};
     private static final String[] BARRED = {
-        "\\b(throw|throws|try|catch|finally|synchronized|assert)\\b", "->", "::", "@",
-        "\\bimport\\b(?! java\\.util\\.Arrays;)", "^package\\b", "\"", "Exact\\b",
-        "\\b(equals|hashCode|toString)\\b", "\\b(System\\.(?!arraycopy)|Thread|Random|Scanner)",
+        "\\b(throw|throws|try|catch|finally|synchronized|assert)\\b", "->", "::",
+        "\\bimport\\b(?! java\\.util\\.Arrays;)", "^package\\b", "Exact\\b",
+        "\\b(boolean equals|int hashCode|String toString)\\b", "\\b(System\\.(?!arraycopy)|Thread|Random|Scanner)",
         "\\bwhile \\(true\\)"
     };
     private static int wrong = 0;

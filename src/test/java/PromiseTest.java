@@ -43,6 +43,7 @@ public final class PromiseTest {
         promise27Changes();
         promise28Total();
         refusedChangesNothing();
+        allThatThereCanBe();
         System.out.println(wrong == 0 ? "all promises hold" : wrong + " answers are not as due");
         if (wrong != 0) {
             System.exit(1);
@@ -717,6 +718,10 @@ public final class PromiseTest {
         due("just(6, 3, false), B 1", last.just(6, 3, false), 16);
         due("just(6, 2, true), B 1", last.just(6, 2, true), 3);
         due("just(6, 2, false), B 1", last.just(6, 2, false), 16);
+        // The store fills only at a tick that gives none; so all ten give only if both are up at all.
+        PullCards all = machines(1, 1, 1, 1, 6);
+        due("just(10, 10, true), nine sixteenths each", all.just(10, 10, true), 3486784401L);
+        due("just(10, 10, false)", all.just(10, 10, false), 1L << 40);
         PullCards rare = machines(3, 0, 3, 0, 0);
         due("just(10, 10, true)", rare.just(10, 10, true), 1);
         due("just(10, 10, false)", rare.just(10, 10, false), 1L << 40);
@@ -863,5 +868,38 @@ public final class PromiseTest {
         due("machine(0, 0, 0)", x.machine(0, 0, 0), 12);
         due("store(0)", x.store(0), 3);
         due("demand(0, 0)", x.demand(0, 0), 2);
+    }
+
+    /** Two rings of arcs through eight stations, one with cards and one without. */
+    private static void allThatThereCanBe() {
+        promise = 0;
+        PullCards x = stations(20, 20, 20, 20, 20, 20, 20, 20);
+        for (int i = 0; i < 16; i++) {
+            x.arc(i % 8, (i + 1) % 8, i < 8 ? 9 : 0);
+        }
+        due("total(2)", x.total(2), 72);
+        due("total(5)", x.total(5), 0);
+        due("fire(7)", x.fire(7), STATE);
+        due("round()", x.round(), 0);
+        due("slowest(), bare", x.slowest(), 255);
+        due("sum(255, false)", x.sum(255, false), 160);
+        due("pace(true)", x.pace(true), NONE);
+        due("begins(7, 0)", x.begins(7, 0), NONE);
+        due("cards(15, 160, 1)", x.cards(15, 160, 1), 1);
+        x.put(15, 1);
+        due("about(15, 1)", x.about(15, 1), 0);
+        due("ready(0)", x.ready(0), 1);
+        due("fire(0), 9 on an arc from it", x.fire(0), FULL);
+        x.put(0, 8);
+        due("round()", x.round(), 1);
+        due("pace(true)", x.pace(true), 160);
+        due("pace(false)", x.pace(false), 1);
+        due("slowest()", x.slowest(), 255);
+        due("note()", x.note(), 256);
+        x.put(15, 1);
+        due("audit(false)", x.audit(false), 128);
+        // Two cards now, on arcs 8 and 15: station 0 begins again at 140, then all two works in 160.
+        due("begins(0, 60)", x.begins(0, 60), 30 * 160);
+        due("begins(7, 60)", x.begins(7, 60), 140 + 29 * 160 + 20 + 6 * 20);
     }
 }
