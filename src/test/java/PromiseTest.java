@@ -784,6 +784,10 @@ public final class PromiseTest {
         due("at(HIGH)", x.at(HIGH), NONE);
         due("at(LOW)", x.at(LOW), NONE);
         due("at(0), no demand", new PullCards().at(0), NONE);
+        PullCards most = demands(20, 20, 20, 20, 20, 20);
+        due("at(119)", most.at(119), 5);
+        due("at(120)", most.at(120), NONE);
+        due("at(60)", most.at(60), 0);
         PullCards uneven = demands(1, 4);
         int[] wantUneven = {1, 1, 0, 1, 1};
         for (int place = 0; place < wantUneven.length; place++) {
