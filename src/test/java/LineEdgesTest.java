@@ -596,6 +596,11 @@ public final class LineEdgesTest extends Edges {
     }
 
     @Edge("A STATION is READY, if each ARC to it has a CARD.")
+    static void promise7_noRoomBehindIt() {
+        due("ready(0), nine on the arc from it", pair(9, 1).ready(0), 1);
+    }
+
+    @Edge("A STATION is READY, if each ARC to it has a CARD.")
     static void promise7_oneArcOfSixteenWithout() {
         PullCards x = sixteenOwn(1, 1);
         due("ready(0), all with", x.ready(0), 1);

@@ -261,6 +261,15 @@ public final class MachineEdgesTest extends Edges {
         dueGiven(firstLasts(2), 6, 7, 8);
     }
 
+    @Edge("both: one is GIVEN, the STORE stays as it is")
+    static void promise21_storeStaysWithBoth() {
+        // f 1, by 1 by 4: one is given, at tick 2 out of the store. f 2 and more, by 1 by 4: one by
+        // both at tick 2, and that which the store has since tick 1 is still there at tick 4.
+        dueGiven(firstLasts(1), 4, 3, 4);
+        dueGiven(firstLasts(6), 4, 3, 4);
+        dueJust(firstLasts(6), 4, 2, 1, 4);
+    }
+
     @Edge("a STORE between them for B (0 to 6)")
     static void promise21_greatestB() {
         // Each that the first makes is given, 5 at most: 1 by 2 and by 4, 8, 16, 32.
