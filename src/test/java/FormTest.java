@@ -67,9 +67,18 @@ public final class FormTest {
             }
         }
         due("methods", open, new TreeSet<>(Arrays.asList(FACE)));
-        for (Method method : PullCards.class.getDeclaredMethods()) {
+        checkHidden(PullCards.class, names);
+        for (Class<?> type : PullCards.class.getDeclaredClasses()) {
+            checkHidden(type, names);
+        }
+    }
+
+    private static void checkHidden(Class<?> type, TreeSet<String> openNames) {
+        for (Method method : type.getDeclaredMethods()) {
             boolean hidden = Modifier.isPrivate(method.getModifiers());
-            due(method + " bears an open name", hidden && names.contains(method.getName()), false);
+            boolean likeOpen = openNames.contains(method.getName());
+            due(method + " bears an open name", hidden && likeOpen, false);
+            due(method + " takes too many", method.getParameterCount() > 7, false);
         }
     }
 
@@ -83,16 +92,20 @@ public final class FormTest {
 
     private static void checkFields(Class<?> type) {
         TreeSet<String> open = new TreeSet<>();
+        int changing = 0;
         for (Field field : type.getDeclaredFields()) {
             int kind = field.getModifiers();
             if (Modifier.isStatic(kind)) {
                 due(field + " is final", Modifier.isFinal(kind), true);
                 due(field + " is of numbers", field.getType().isPrimitive(), true);
+            } else {
+                changing++;
             }
             if (type == PullCards.class && !Modifier.isPrivate(kind)) {
                 open.add(field.getName());
             }
         }
+        due(type + " has too many fields", changing > 20, false);
         if (type == PullCards.class) {
             due("open fields", open, new TreeSet<>(Arrays.asList(CONSTANTS)));
         }
